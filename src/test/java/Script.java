@@ -53,8 +53,8 @@ final class Script {
     }
 
     /** What a call answers, or "throws" and the exact class of the exception. */
-    static String answer(TrunkGroup group, String name, String... words) {
-        Method method = methodOf(name);
+    static String answer(Object group, String name, String... words) {
+        Method method = methodOf(group.getClass(), name);
         Class<?>[] types = method.getParameterTypes();
         if (types.length != words.length) {
             throw new IllegalStateException("wrong number of arguments for " + name);
@@ -77,9 +77,9 @@ final class Script {
         }
     }
 
-    private static Method methodOf(String name) {
-        for (Method method : TrunkGroup.class.getMethods()) {
-            if (method.getName().equals(name) && method.getDeclaringClass() == TrunkGroup.class) {
+    private static Method methodOf(Class<?> type, String name) {
+        for (Method method : type.getMethods()) {
+            if (method.getName().equals(name) && method.getDeclaringClass() == type) {
                 return method;
             }
         }
