@@ -549,6 +549,9 @@ public final class TrunkGroup {
         }
 
         void dropFirst(int number) {
+            if (number == 0) {
+                return;
+            }
             size -= number;
             System.arraycopy(arrivals, number, arrivals, 0, size);
             System.arraycopy(contents, number, contents, 0, size);
@@ -721,9 +724,7 @@ public final class TrunkGroup {
             for (int i = 0; i < due; i++) {
                 receive(i);
             }
-            if (due > 0) {
-                link.dropFirst(due);
-            }
+            link.dropFirst(due);
             return due;
         }
 
