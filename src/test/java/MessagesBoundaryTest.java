@@ -44,6 +44,8 @@ public final class MessagesBoundaryTest {
     private static final int[] LOCAL_BLOCK_TICKS = {0, 0, 2, 0};
     private static final int BLOCKED = 2;
 
+    private static final String OTHERWISE = "In all other cases a message does nothing";
+
     private static final Set<Stages> OUTGOING = EnumSet.of(Stages.OUTGOING, Stages.BEFORE_CHECK);
     private static final Set<Stages> CLEARING = EnumSet.of(Stages.RELEASING, Stages.RESETTING);
 
@@ -124,6 +126,7 @@ public final class MessagesBoundaryTest {
     }
 
     private static void doesNothingBut(String message, int exchange, Set<Stages> acts) {
+        Boundary.sentence(OTHERWISE);
         for (Stages stage : Stages.values()) {
             if (!acts.contains(stage)) {
                 doesNothing(message, exchange, stage);
@@ -343,6 +346,12 @@ public final class MessagesBoundaryTest {
     private static void answersToBlocks(int exchange) {
         Boundary.sentence("BLOCK_DONE: if the local block is BLOCKING, it becomes BLOCKED. UNBLOCK_DONE: if it is UNBLOCKING, it becomes"
             + " NOT_BLOCKED");
+        String rests = "; total(0) = %d; tick(50) = 0; total(0) = %d";
+        TrunkGroup group = arrived(BLOCK_DONE, exchange, LOCAL_BLOCKS[1], 0);
+        check(group, exchange, "end(e, 0, 4) = BLOCKED" + rests.replace("%d", Integer.toString(group.total(0))));
+        group = arrived(UNBLOCK_DONE, exchange, LOCAL_BLOCKS[3], 0);
+        check(group, exchange, "end(e, 0, 4) = NOT_BLOCKED; choice(e) = 0" + rests.replace("%d", Integer.toString(group.total(0))));
+        Boundary.sentence(OTHERWISE);
         for (int block = 0; block < LOCAL_BLOCKS.length; block++) {
             if (block != 1) {
                 doesNothing(BLOCK_DONE, exchange, LOCAL_BLOCKS[block], LOCAL_BLOCK_TICKS[block], 0);
@@ -351,11 +360,6 @@ public final class MessagesBoundaryTest {
                 doesNothing(UNBLOCK_DONE, exchange, LOCAL_BLOCKS[block], LOCAL_BLOCK_TICKS[block], 0);
             }
         }
-        String rests = "; total(0) = " + "%d; tick(50) = 0; total(0) = %d";
-        TrunkGroup group = arrived(BLOCK_DONE, exchange, LOCAL_BLOCKS[1], 0);
-        check(group, exchange, "end(e, 0, 4) = BLOCKED" + rests.replace("%d", Integer.toString(group.total(0))));
-        group = arrived(UNBLOCK_DONE, exchange, LOCAL_BLOCKS[3], 0);
-        check(group, exchange, "end(e, 0, 4) = NOT_BLOCKED; choice(e) = 0" + rests.replace("%d", Integer.toString(group.total(0))));
         for (Stages stage : Stages.values()) {
             doesNothing(BLOCK_DONE, exchange, stage);
             doesNothing(UNBLOCK_DONE, exchange, stage);
